@@ -248,8 +248,8 @@ public final class TickHouse {
         if (program.letters.sort[slot] != TRUTH) {
             return NONE;
         }
-        prover.begin(machine, k, NONE, slot);
-        return prover.search(most);
+        prover.begin(machine, k, NONE, slot, most);
+        return prover.search();
     }
 
     public int alike(int k, int other, int most) {
@@ -259,8 +259,8 @@ public final class TickHouse {
         if (program.inputs[k] != program.inputs[other] || !haveSameOutputs(k, other)) {
             return NONE;
         }
-        prover.begin(machine, k, other, NONE);
-        return prover.search(most);
+        prover.begin(machine, k, other, NONE, most);
+        return prover.search();
     }
 
     private boolean canProve(int k) {
@@ -2106,12 +2106,13 @@ public final class TickHouse {
     /** Looks through all MEMORIES of one NODE, or of two side by side, that can come. */
     private static final class Prover {
         private static final int TABLE = 1024;
+        private static final int MOST_ROWS = MOST_MEMORIES * 2 * MOST_VALUES;
 
         boolean hasTold;
         int found;
         int pathLength;
         final int[] path = new int[MOST_MEMORIES];
-        /** The MEMORIES found, one behind the other; made when they are needed first, and used again. */
+        /** The MEMORIES found, one behind the other; made anew only if more are asked for, and at once twice as long. */
         private int[] rows = new int[0];
         private final int[] nextRow = new int[2 * MOST_VALUES];
         /** By which MEMORY and which INPUTS each one was found. */
@@ -2126,18 +2127,20 @@ public final class TickHouse {
         private int nodeNumber;
         private int other;
         private int proved;
+        private int most;
         private int width;
 
         /** Without an other NODE the flow at slot wanted is what must be 1. */
-        void begin(Machine with, int k, int otherNode, int wanted) {
+        void begin(Machine with, int k, int otherNode, int wanted, int atMost) {
             machine = with;
             program = with.program;
             nodeNumber = k;
             other = otherNode;
             proved = wanted;
+            most = atMost;
             width = program.values[k] + (other < 0 ? 0 : program.values[other]);
-            if (rows.length == 0) {
-                rows = new int[MOST_MEMORIES * 2 * MOST_VALUES];
+            if (rows.length < most * width) {
+                rows = new int[Math.min(MOST_ROWS, Math.max(most * width, 2 * rows.length))];
             }
             Arrays.fill(table, 0);
             found = 0;
@@ -2145,7 +2148,7 @@ public final class TickHouse {
             hasTold = true;
         }
 
-        int search(int most) {
+        int search() {
             if (machine == null || program == null) {
                 return NONE;
             }

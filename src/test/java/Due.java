@@ -22,6 +22,16 @@ final class Due {
         return due;
     }
 
+    /** A text that has that FAULT at the place of its mark `, on an object of its own. */
+    static void bad(int kind, String marked) {
+        new Due("FAULT " + kind).faults(kind, marked);
+    }
+
+    /** A text without FAULTS, on an object of its own. */
+    static void good(String text) {
+        of("no FAULT", text);
+    }
+
     static void end() {
         System.out.println(checks + " answers looked at, " + wrong + " wrong");
         System.exit(wrong == 0 ? 0 : 1);
