@@ -909,7 +909,7 @@ public final class TickHouse {
 
         /** D, E, F, G and H: what stands between operators of that rank or of higher ones. */
         private int readRanked(int rank) {
-            int left = readSampled();
+            int left = sampled(readK());
             int highest = HIGHEST;
             for (int k = 0; k < MOST_TEXT; k++) {
                 int op = operatorHere();
@@ -956,8 +956,9 @@ public final class TickHouse {
             }
         }
 
-        private int readSampled() {
-            int part = readK();
+        /** J: that K, with all @ that stand behind it. */
+        private int sampled(int inner) {
+            int part = inner;
             for (int k = 0; k < MOST_TEXT && state == NONE && look() == '@'; k++) {
                 at++;
                 int code = takeClock();
@@ -1065,7 +1066,20 @@ public final class TickHouse {
             }
             deepen();
             at++;
-            int first = look() == ')' ? NONE : readArguments();
+            int first = NONE;
+            int latest = NONE;
+            for (int k = 0; k < MOST_TEXT && look() != ')'; k++) {
+                if (k > 0) {
+                    expect(',');
+                }
+                int one = readX();
+                if (latest < 0) {
+                    first = one;
+                } else {
+                    parts.next[latest] = one;
+                }
+                latest = one;
+            }
             expect(')');
             depth--;
             int part = addPart(CALL, begin, begin, callee);
@@ -1076,19 +1090,6 @@ public final class TickHouse {
                 parts.hat[part] = takeLetter();
             }
             return part;
-        }
-
-        /** The first one of the arguments; each one leads to the next one. */
-        private int readArguments() {
-            int first = readX();
-            int latest = first;
-            for (int k = 0; k < MOST_TEXT && look() == ','; k++) {
-                at++;
-                int one = readX();
-                parts.next[latest] = one;
-                latest = one;
-            }
-            return first;
         }
     }
 
