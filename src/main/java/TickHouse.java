@@ -836,7 +836,6 @@ public final class TickHouse {
             int m = automata.addMove(state, look() == '!', parts.count);
             at++;
             inMove = true;
-            parens = 0;
             automata.moveX[m] = readX();
             inMove = false;
             if (look() != '>' && look() != '~') {

@@ -144,6 +144,7 @@ public final class FaultsTest {
         Due.bad(4, one + "A(cb,xi)yi|db@c{d=T;y=`C(1)^d;}");
         Due.bad(4, one + "A(cb,xi)yi|zi@c{z=`C(1);y=1;}");
         Due.good(one + "A(cb,xi)yi|zi@c{z=C(1)@c;y=1;}");
+        Due.bad(4, "C(xi)yi{y=x;}A(cb,xi)yi|ab@c{a=T;y=C(x)^`a;}");
         Due.good(one + "A(cb,xi)yi|db@c,zi@c{d=T;z=C(1)^d;y=1;}");
     }
 
@@ -174,6 +175,8 @@ public final class FaultsTest {
         String one = "C(xb)ai{a=1;}";
         Due.bad(5, one + "A(xb)yi{y=C(`~x);}");
         Due.bad(5, one + "A(xb)yi|zb{z=~x;y=1->C(`z);}");
+        Due.bad(5, "C(xi,zi)ai{a=1;}A(xi)yi{y=C(x,`~x);}");
+        Due.bad(5, "A(xi)yi|ai{a=~x;`y=a;}");
         Due.bad(5, one + "A(xb)yi|zb{z=~x;y=1->C(x)^`z;}");
         Due.bad(5, "A(xb)yi|zb{z=~x;${y=1;!`z>0;};}");
         Due.bad(5, "A(xb)yi|zb{z=~x;${y=1;?`T|z>0;};}");
@@ -189,6 +192,8 @@ public final class FaultsTest {
 
     private static void cycles() {
         Due.bad(6, "A()`yi{y=y;}");
+        Due.bad(6, "A()`ai{a=a;}");
+        Due.bad(6, "B()yi{y=1;}A()`ai{a=a;}");
         Due.bad(6, "A()`yi{y=1->y;}");
         Due.bad(6, "A()`yi,zi{y=z;z=y+1;}");
         Due.bad(6, "A()wi,`yi,zi{w=z;y=z;z=y+1;}");

@@ -15,6 +15,7 @@ public final class RunTest {
         lasts();
         sampled();
         clocksOfFreeParts();
+        order();
         calls();
         callsBegunAnew();
         callsOfSeveral();
@@ -265,6 +266,42 @@ public final class RunTest {
         due.goes(1, 14);
         due.goes(0, 6);
         due.goes(1, 24);
+        String text = "A(cb,xi)yi|zi@c{z=7;y=[c,z,(5->6)+1/x@!c];}B(cb,xi)yi|zi@!c{z=(1/x)@!c;y=c?1:2;}"
+                + "C(cb)yi{y=[c,1,2/0];}";
+        due = Due.of("free parts", text);
+        due.make(0, 0);
+        due.goes(1, 0, 7);
+        due.goes(0, 2, 5);
+        due.goes(0, 1, 7);
+        due.put(0, 1, 0, true);
+        due.tick(0, 1 + text.indexOf('/'));
+        due.make(1, 1);
+        due.put(1, 0, 1, true);
+        // on what c is on, not on @!c
+        due.tick(1, 1 + text.indexOf("/x)@"));
+        due.make(2, 2);
+        due.tick(2, 1 + text.lastIndexOf('/'));
+        due.put(2, 0, 1, true);
+        due.tick(2, 0);
+        due = Due.of("free parts in calls", "C(xi)yi{y=x->~y+1;}A(cb)yi|zi@c{z=C((3->4)@c)+(1->2);y=[c,z,0];}");
+        due.make(1, 0);
+        due.goes(0, 0);
+        due.goes(1, 5);
+        due.goes(0, 0);
+        due.goes(1, 7);
+    }
+
+    /** Whatever the order told: what another EQUATION needs is worked out ahead of it, in each NODE anew. */
+    private static void order() {
+        Due due = Due.of("order", "A()yi,zi{y=1;z=1;}B(xi)yi,zi,wi{y=z+w;z=w*2;w=x;}");
+        due.make(1, 0);
+        due.goes(5, 15);
+        due.goes(6, 18);
+        due = Due.of("order of automata", "A(xi)yi,zi{${y=z;!z=3~1;}{y=z+100;!z=4~0;};${z=x;}{z=0;};}");
+        due.make(0, 0);
+        due.goes(2, 2);
+        due.goes(3, 103);
+        due.goes(4, 4);
     }
 
     private static void calls() {
@@ -275,6 +312,10 @@ public final class RunTest {
         due.goes(0, 9, 3);
         due.goes(1, 2, 15);
         due.goes(1, 2, 18);
+        due = Due.of("arguments", "A(xi,yi,cb)zi{z=c?x-y:y-x;}B(xi)zi{z=A(x*2,x,x>3)+A(1,A(x,1,T),U);}");
+        due.make(1, 0);
+        due.goes(5, 8);
+        due.goes(2, -2);
     }
 
     private static void callsBegunAnew() {
@@ -487,7 +528,12 @@ public final class RunTest {
         due.make(0, 0);
         due.out(0, 0, Due.THROWS);
         due.back(0, 0, false);
-        due.goes(1);
+        due.put(0, 0, 1, true);
+        due.save(0, 0, true);
+        due.fits("A(cb)yi|zi@c{y=c?5:6;z=7@c;}");
+        due.make(0, 0);
+        due.back(0, 0, false);
+        due.goes(6);
     }
 
     private static void keeping() {

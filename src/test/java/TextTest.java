@@ -5,6 +5,7 @@ public final class TextTest {
         typing();
         fullText();
         modules();
+        oneAfterAnother();
         heads();
         bodies();
         parts();
@@ -124,6 +125,36 @@ public final class TextTest {
         due.node(7, 0, 'H');
         due.faults(1, eight + "`A()yi{y=1;}");
         due.faults(1, eight + "`}");
+    }
+
+    /** Nothing of an earlier TEXT is left in a later one. */
+    private static void oneAfterAnother() {
+        Due due = new Due("one after another");
+        String full = "A(ab)yi=5,zi|ui,cb=1,di@c{d=1;${y=1;?a>1;}{y=2->~2;!a~0;};u=~1;z=1->u;c=a;}"
+                + "B()yi,zi,ui{y=1;z=2;u=3;}C(xi)yi{y=x;}";
+        String small = "A(xi)yi,ui|zi,di,cb{y=z+u;z=x+d;u=x;d=1;c=T;${}{!c>0;};}B(xi)yi{y=x;}";
+        for (int k = 0; k < 3; k++) {
+            due.fits(full);
+            due.counts(0, 1, 2, 3, 1, 7);
+            due.make(0, 0);
+            due.goes(1, 1);
+            due.state(0, 0, 1);
+            due.fits(small);
+            due.total(0, 2);
+            due.counts(0, 1, 2, 3, 1, 1);
+            due.make(0, 0);
+            due.tick(0, 0);
+            due.out(0, 0, 1);
+            due.put(0, 0, 4, true);
+            due.tick(0, 0);
+            due.out(0, 0, 9);
+            due.state(0, 0, 0);
+            due.state(0, 1, -1);
+            due.faults(2, "A()yi{y='`y;}");
+            due.faults(2, "A()ui{u=`c;}");
+            due.faults(2, "A()yi{`${y=1;}{};}");
+            due.faults(1, "A(cb)yi{y=1;${!((c`");
+        }
     }
 
     private static void heads() {
