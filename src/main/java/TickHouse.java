@@ -2070,9 +2070,6 @@ public final class TickHouse {
             ticked = false;
             Arrays.fill(inputs, 0);
             System.arraycopy(program.firstMemory, n * MOST_VALUES, memory, 0, MOST_VALUES);
-            for (int k = 0; k < LETTERS; k++) {
-                letterOn[k] = false;
-            }
             Arrays.fill(keptTicks, NONE);
         }
 

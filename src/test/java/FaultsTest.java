@@ -28,6 +28,7 @@ public final class FaultsTest {
         Due.good("A()yi|zi=4{y='z;z=1;}");
         Due.bad(2, "A(ci)yi|zi@`c{y=1;z=1;}");
         Due.bad(2, "A()yi|zi@!`c{y=1;z=1;}");
+        Due.bad(2, "A(ai)yi|zi@`a{y=1;z=1;}");
         Due.bad(2, "A(ci)yi{y=1@`c;}");
         Due.bad(2, "A(ci)yi{y=1@!`c;}");
         Due.bad(2, "A(ci)yi{y=[`c,1,1];}");
@@ -119,6 +120,7 @@ public final class FaultsTest {
     private static void clocks() {
         Due.bad(4, "A()yi|`cb@d,db@c{y=1;c=T;d=T;}");
         Due.bad(4, "A()yi|`cb@c{y=1;c=T;}");
+        Due.bad(4, "A()yi|`ab@a{y=1;a=T;}");
         Due.bad(4, "A()yi|eb@d,`cb@d,db@!c{y=1;c=T;d=T;e=T;}");
         Due.bad(4, "A(xi,cb)yi|zi@c{z=`x;y=1;}");
         Due.bad(4, "A(xi,cb)yi|zi@c{z=`x@!c;y=1;}");
@@ -170,6 +172,7 @@ public final class FaultsTest {
         Due.bad(5, "A(xb)yi|zi{z=`~x?1:2;y=1;}");
         Due.bad(5, "A(xb)yi|zb{z=~x;y=1->1+(`z?1:2);}");
         Due.bad(5, "A(xb)yi|zb,wi@`z{z=~x;w=1;y=1;}");
+        Due.bad(5, "A(xb)yi|ab,wi@`a{a=~x;w=1;y=1;}");
         Due.bad(5, "A(xb)yi|zb{z=~x;y=1->[`z,1,2];}");
         Due.bad(5, "A(xb)yi|zb,wi{z=~x;w=1->~`[z,1@z,2];y=1;}");
         String one = "C(xb)ai{a=1;}";
@@ -211,6 +214,8 @@ public final class FaultsTest {
         Due.bad(6, "A()`yi|cb,zi@c{y=[c,z,1];c=1=y;z=1;}");
         Due.bad(6, "A()yi|`cb,zi@c{y=1;c=[c,z>0,T];z=1;}");
         Due.bad(6, "A(xb)`yb{${y=x;!y>0;};}");
+        Due.bad(6, "A(xb)`yb{${y=x;!y>0;!x>0;};}");
+        Due.bad(6, "A(xb)`yb{${y=x;!x>0;}{y=x;!x>0;!y>0;};}");
         Due.good("A(xb)yb=0{${y=x;!'y>0;};}");
         Due.good("A(xb)yb{${y=x;?y>0;};}");
         Due.bad(6, "A(xb)`yb,zb{${y=z;z=x;}{y=x;z=y;};}");

@@ -96,6 +96,21 @@ public final class ProveTest {
         due.alike(2, 2, 300, 1);
         due.alike(0, 1, 300, 0);
         due.run(-1, 300);
+        // the first one, and 8 latest INPUTS that are 0 or 1 each
+        due = Due.of("register", "A(ab)yb|bb,cb,db,eb,fb,gb,hb,ib{b=U->~a;c=U->~b;d=U->~c;e=U->~d;f=U->~e;g=U->~f;h=U->~g;i=U->~h;"
+                + "y=!(b&c&d&e&f&g&!h&i);}B(ab)zb,yb|bb,cb,db,eb,fb,gb,hb,ib{b=U->~a;c=U->~b;d=U->~c;e=U->~d;f=U->~e;g=U->~f;h=U->~g;i=U->~h;"
+                + "y=i|!i;z=!(b&c&d&e&f&g&h&i);}");
+        due.prove(0, 0, 300, 0);
+        due.run(-1, 9);
+        int[] due9 = {1, 0, 1, 1, 1, 1, 1, 1, 0};
+        for (int k = 0; k < 9; k++) {
+            due.run(k, due9[k]);
+        }
+        due.prove(1, 1, 300, 1);
+        due.run(-2, 257);
+        due.prove(1, 1, 257, 1);
+        due.prove(1, 1, 256, 2);
+        due.run(-2, 256);
     }
 
     private static void wrongCalls() {
@@ -132,6 +147,8 @@ public final class ProveTest {
         due.run(0, 1);
         due.run(1, 0);
         due.alike(2, 0, 9, 0);
+        due.alike(1, 0, 9, 1);
+        due.run(-2, 5);
         due.alike(0, 1, 2, 2);
         due.run(-2, 2);
         due.alike(2, 2, 9, 1);
@@ -140,7 +157,7 @@ public final class ProveTest {
     private static void alikeFailing() {
         // the FAILING tick of both leaves both as they are
         Due due = Due.of("failing", "A(ab)yb|ni{n=0->~n+1;y=1/(a?0:1)=1;}B(ab)yb{y=T&1/(a?0:1)<5;}C(ab)yb{y=T;}"
-                + "D(ab)yb=0{y=!'y&1/(a?0:1)=1;}");
+                + "D(ab)yb=0{y=!'y&1/(a?0:1)=1;}E(ab)yb|ni=0{y=1/(a?0:1)=1;n=a?'n+1:'n;}");
         due.alike(1, 2, 9, 0);
         due.run(-1, 1);
         due.run(0, 1);
@@ -150,6 +167,8 @@ public final class ProveTest {
         due.run(-2, 1);
         due.alike(3, 3, 5, 1);
         due.run(-2, 2);
+        due.alike(4, 4, 5, 1);
+        due.run(-2, 1);
         due.alike(3, 1, 5, 0);
         due.run(-1, 2);
         due.run(0, 0);

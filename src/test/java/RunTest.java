@@ -283,6 +283,16 @@ public final class RunTest {
         due.tick(2, 1 + text.lastIndexOf('/'));
         due.put(2, 0, 1, true);
         due.tick(2, 0);
+        // (3->4) is on what d is on: its first time is the first tick in which c is 1
+        due = Due.of("free parts", "A(cb,eb)yi|db@c,zi@d{d=e@c;z=(3->4)@d;y=[c,[d,z,0],1];}");
+        due.make(0, 0);
+        due.save(0, 0, true);
+        due.goes(0, 1, 1);
+        due.goes(1, 1, 3);
+        due.goes(1, 1, 4);
+        due.back(0, 0, true);
+        due.goes(1, 0, 0);
+        due.goes(1, 1, 4);
         due = Due.of("free parts in calls", "C(xi)yi{y=x->~y+1;}A(cb)yi|zi@c{z=C((3->4)@c)+(1->2);y=[c,z,0];}");
         due.make(1, 0);
         due.goes(0, 0);
@@ -297,6 +307,15 @@ public final class RunTest {
         due.make(1, 0);
         due.goes(5, 15);
         due.goes(6, 18);
+        due = Due.of("order of clocks", "A(ab)yi|zi@c,cb,wi@a{z=7;w=8;c=!a;y=[c,z,0]+[a,w,1];}");
+        due.make(0, 0);
+        due.goes(0, 8);
+        due.goes(1, 8);
+        due.flow(0, 'w', 8);
+        due.flow(0, 'z', Due.THROWS);
+        due.goes(0, 8);
+        due.flow(0, 'w', Due.THROWS);
+        due.flow(0, 'z', 7);
         due = Due.of("order of automata", "A(xi)yi,zi{${y=z;!z=3~1;}{y=z+100;!z=4~0;};${z=x;}{z=0;};}");
         due.make(0, 0);
         due.goes(2, 2);
@@ -462,6 +481,14 @@ public final class RunTest {
             due.goes(one);
             due.out(0, 1, one[1]);
         }
+        // as new: what the INSTANCES of its calls remember at first, too
+        due = Due.of("calls in states", "B()yi=40{y='y+1;}A(cb)yi=0{${y=1->~y+1;?T>1;}{y='y-'y+B();?c>1;};}");
+        due.make(1, 0);
+        due.goes(0, 1);
+        due.goes(0, 41);
+        due.goes(0, 42);
+        due.goes(1, 43);
+        due.goes(0, 41);
         // anew into the STATE in which it is
         due = Due.of("into itself", counting + "A(cb)yi,zi{${y=1->~y+1;z=B();?c>0;};}C(cb)yi,zi{${y=1->~y+1;z=B();!c>0;};}");
         due.make(1, 0);
@@ -533,7 +560,11 @@ public final class RunTest {
         due.fits("A(cb)yi|zi@c{y=c?5:6;z=7@c;}");
         due.make(0, 0);
         due.back(0, 0, false);
+        due.ticks(0, 0);
         due.goes(6);
+        due.fits("A(cb)yi|zi@c{y=c?5:6;z=7@c;}");
+        due.make(0, 0);
+        due.ticks(0, 0);
     }
 
     private static void keeping() {

@@ -127,34 +127,64 @@ public final class TextTest {
         due.faults(1, eight + "`}");
     }
 
-    /** Nothing of an earlier TEXT is left in a later one. */
+    /** Nothing of an earlier TEXT is left in a later one; three TEXTS in turn come behind each other in every way. */
     private static void oneAfterAnother() {
         Due due = new Due("one after another");
-        String full = "A(ab)yi=5,zi|ui,cb=1,di@c{d=1;${y=1;?a>1;}{y=2->~2;!a~0;};u=~1;z=1->u;c=a;}"
-                + "B()yi,zi,ui{y=1;z=2;u=3;}C(xi)yi{y=x;}";
-        String small = "A(xi)yi,ui|zi,di,cb{y=z+u;z=x+d;u=x;d=1;c=T;${}{!c>0;};}B(xi)yi{y=x;}";
-        for (int k = 0; k < 3; k++) {
-            due.fits(full);
-            due.counts(0, 1, 2, 3, 1, 7);
-            due.make(0, 0);
-            due.goes(1, 1);
-            due.state(0, 0, 1);
-            due.fits(small);
-            due.total(0, 2);
-            due.counts(0, 1, 2, 3, 1, 1);
-            due.make(0, 0);
-            due.tick(0, 0);
-            due.out(0, 0, 1);
-            due.put(0, 0, 4, true);
-            due.tick(0, 0);
-            due.out(0, 0, 9);
-            due.state(0, 0, 0);
-            due.state(0, 1, -1);
-            due.faults(2, "A()yi{y='`y;}");
-            due.faults(2, "A()ui{u=`c;}");
-            due.faults(2, "A()yi{`${y=1;}{};}");
-            due.faults(1, "A(cb)yi{y=1;${!((c`");
+        for (int k = 0; k < 4; k++) {
+            goFull(due);
+            if (k % 2 == 0) {
+                goSmall(due);
+            }
+            goOther(due);
         }
+        due.faults(2, "A()yi{y='`y;}");
+        due.faults(2, "A()ui{u=`c;}");
+        due.faults(2, "A()yi{`${y=1;}{};}");
+        due.faults(1, "A(cb)yi{y=1;${!((c`");
+        due.faults(1, "A(xi)yi{y=x-`");
+        due.fits("A(xi)yi{y=x->x;}");
+        due.faults(1, "A(xi)yi{y=x-`");
+        due.faults(1, "A(xi)yi{y=x`");
+        due.faults(1, "A(xi)yi{y=-`");
+    }
+
+    private static void goFull(Due due) {
+        due.fits("A(ab)yi=5,zi|ui,cb=1,di@c{d=1;${y=1;?a>1;}{y=2->~2;!a~0;};u=~1;z=1->u;c=a;}"
+                + "B()yi,zi,ui{y=1;z=2;u=3;}C(xi)yi{y=x;}");
+        due.counts(0, 1, 2, 3, 1, 7);
+        due.make(0, 0);
+        due.goes(1, 1);
+        due.state(0, 0, 1);
+        due.goes(0, 2);
+        due.goes(1, 1);
+    }
+
+    private static void goSmall(Due due) {
+        due.fits("A(xi)yi,ui|zi,di,cb{y=z+u;z=x+d;u=x;d=1;c=T;${}{!c>0;};}B(xi)yi{y=x;}");
+        due.total(0, 2);
+        due.counts(0, 1, 2, 3, 1, 1);
+        due.make(0, 0);
+        due.tick(0, 0);
+        due.out(0, 0, 1);
+        due.put(0, 0, 4, true);
+        due.tick(0, 0);
+        due.out(0, 0, 9);
+        due.state(0, 0, 0);
+        due.state(0, 1, -1);
+    }
+
+    private static void goOther(Due due) {
+        due.fits("A(xi)di,yi,zb{d=y+1;y=x;${z=T;!d=3~1;}{z=U->~T;!U>0;?d=1>0;};}");
+        due.counts(0, 1, 3, 0, 1, 3);
+        due.make(0, 0);
+        due.ticks(0, 0);
+        due.goes(1, 2);
+        due.out(0, 2, 1);
+        due.goes(2, 3);
+        due.out(0, 2, 0);
+        due.goes(3, 4);
+        due.out(0, 2, 1);
+        due.ticks(0, 3);
     }
 
     private static void heads() {
