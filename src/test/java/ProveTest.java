@@ -97,9 +97,8 @@ public final class ProveTest {
         due.alike(0, 1, 300, 0);
         due.run(-1, 300);
         // the first one, and 8 latest INPUTS that are 0 or 1 each
-        due = Due.of("register", "A(ab)yb|bb,cb,db,eb,fb,gb,hb,ib{b=U->~a;c=U->~b;d=U->~c;e=U->~d;f=U->~e;g=U->~f;h=U->~g;i=U->~h;"
-                + "y=!(b&c&d&e&f&g&!h&i);}B(ab)zb,yb|bb,cb,db,eb,fb,gb,hb,ib{b=U->~a;c=U->~b;d=U->~c;e=U->~d;f=U->~e;g=U->~f;h=U->~g;i=U->~h;"
-                + "y=i|!i;z=!(b&c&d&e&f&g&h&i);}");
+        String register = "|bb,cb,db,eb,fb,gb,hb,ib{b=U->~a;c=U->~b;d=U->~c;e=U->~d;f=U->~e;g=U->~f;h=U->~g;i=U->~h;";
+        due = Due.of("register", "A(ab)yb" + register + "y=!(b&c&d&e&f&g&!h&i);}B(ab)zb,yb" + register + "y=i|!i;z=b;}");
         due.prove(0, 0, 300, 0);
         due.run(-1, 9);
         int[] due9 = {1, 0, 1, 1, 1, 1, 1, 1, 0};

@@ -236,7 +236,8 @@ public final class RunTest {
     }
 
     private static void sampled() {
-        Due due = Due.of("sampled", "A(cb,xi)yi,zi|ui@c,vi@!c,db@c,wi@d{u=x@c->~u+1;v=x@!c;y=[c,u,v];d=u>3;w=u@d;z=[c,[d,w,0-1],0-2];}");
+        Due due = Due.of("sampled", "A(cb,xi)yi,zi|ui@c,vi@!c,db@c,wi@d{u=x@c->~u+1;v=x@!c;y=[c,u,v];d=u>3;w=u@d;"
+                + "z=[c,[d,w,0-1],0-2];}");
         due.make(0, 0);
         due.goes(0, 8, 8);
         due.flow(0, 'u', Due.THROWS);
