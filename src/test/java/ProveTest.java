@@ -151,6 +151,9 @@ public final class ProveTest {
         due.alike(0, 1, 2, 2);
         due.run(-2, 2);
         due.alike(2, 2, 9, 1);
+        due = Due.of("first ones", "A(ab)yb=1{y='y;}B(ab)yb{y=T;}");
+        due.alike(1, 0, 9, 1);
+        due.alike(0, 1, 9, 1);
     }
 
     private static void alikeFailing() {

@@ -137,6 +137,11 @@ public final class TextTest {
             }
             goOther(due);
         }
+        for (int k = 0; k < 2; k++) {
+            due.fits("A()yi=5,zi=6,ui=7{y='y;z='z;u='u;}");
+            due.fits("A()yi=5,zi=6,ui=7{y='y;z='z;u='u;}");
+            goOther(due);
+        }
         due.faults(2, "A()yi{y='`y;}");
         due.faults(2, "A()ui{u=`c;}");
         due.faults(2, "A()yi{`${y=1;}{};}");
@@ -146,6 +151,15 @@ public final class TextTest {
         due.faults(1, "A(xi)yi{y=x-`");
         due.faults(1, "A(xi)yi{y=x`");
         due.faults(1, "A(xi)yi{y=-`");
+        // as much as a TEXT can hold, again and again
+        due = new Due("full of automata");
+        for (int k = 0; k < 5; k++) {
+            due.faults(2, "A(cb)yi{" + "${!c>0;}{!c>0;};".repeat(42) + "y=`q;}");
+        }
+        due = new Due("full of equations");
+        for (int k = 0; k < 3; k++) {
+            due.faults(2, "A()yi{y=1;`" + "y=1;".repeat(170) + "}");
+        }
     }
 
     private static void goFull(Due due) {
