@@ -4,12 +4,17 @@ import java.util.NoSuchElementException;
 final class Due {
     /** Stands for an exception that is due. */
     static final long THROWS = Long.MIN_VALUE;
+    static final int LEAST = Integer.MIN_VALUE;
+    static final int MOST = Integer.MAX_VALUE;
+    /** Nothing is promised of later calls, so that a test that goes on behind them tests nothing. */
+    private static final int MOST_CALLS = 512;
 
     private static int wrong = 0;
     private static int checks = 0;
 
     final TickHouse house = new TickHouse();
     private final String title;
+    private int calls = 0;
 
     Due(String title) {
         this.title = title;
@@ -37,8 +42,17 @@ final class Due {
         System.exit(wrong == 0 ? 0 : 1);
     }
 
+    private void count(String call) {
+        calls++;
+        if (calls == MOST_CALLS + 1) {
+            wrong++;
+            System.out.println(title + ": " + call + " is more than " + MOST_CALLS + " calls of one object");
+        }
+    }
+
     void is(String call, long got, long want) {
         checks++;
+        count(call);
         if (got != want) {
             wrong++;
             System.out.println(title + ": " + call + " answered " + word(got) + ", due is " + word(want));
@@ -61,9 +75,8 @@ final class Due {
             for (int k = from; k < to; k++) {
                 word = word << 8 | text.charAt(k);
             }
-            if (!house.type(word, to - from)) {
-                is("type() of " + text, 0, 1);
-            }
+            boolean took = house.type(word, to - from);
+            is("type() of " + text, took, true);
         }
     }
 
@@ -90,7 +103,10 @@ final class Due {
     /** The FAULT is at the place of the mark ` in the text, which is left out of it. */
     void faults(int kind, String marked) {
         int place = marked.indexOf('`');
-        String text = marked.substring(0, place) + marked.substring(place + 1);
+        faultsAt(kind, place, marked.substring(0, place) + marked.substring(place + 1));
+    }
+
+    void faultsAt(int kind, int place, String text) {
         types(text);
         is("module() of " + text, module(), THROWS);
         is("fault(0) of " + text, house.fault(0), kind);

@@ -98,7 +98,8 @@ public final class ProveTest {
         due.run(-1, 300);
         // the first one, and 8 latest INPUTS that are 0 or 1 each
         String register = "|bb,cb,db,eb,fb,gb,hb,ib{b=U->~a;c=U->~b;d=U->~c;e=U->~d;f=U->~e;g=U->~f;h=U->~g;i=U->~h;";
-        due = Due.of("register", "A(ab)yb" + register + "y=!(b&c&d&e&f&g&!h&i);}B(ab)zb,yb" + register + "y=i|!i;z=b;}");
+        due = Due.of("register", "A(ab)yb" + register + "y=!(b&c&d&e&f&g&!h&i);}"
+                + "B(ab)zb,yb" + register + "y=i|!i;z=b;}");
         due.prove(0, 0, 300, 0);
         due.run(-1, 9);
         int[] due9 = {1, 0, 1, 1, 1, 1, 1, 1, 0};
@@ -113,7 +114,8 @@ public final class ProveTest {
     }
 
     private static void wrongCalls() {
-        Due due = Due.of("wrong calls", "A(ab)yb,zi{y=a;z=1;}B(ai)yb{y=T;}C(ab,bb,cb,db)yb{y=T;}D(ab,bb,cb,db,eb)yb{y=T;}");
+        Due due = Due.of("wrong calls", "A(ab)yb,zi{y=a;z=1;}B(ai)yb{y=T;}C(ab,bb,cb,db)yb{y=T;}"
+                + "D(ab,bb,cb,db,eb)yb{y=T;}");
         due.prove(2, 0, 1, 1);
         due.prove(0, 0, 0, -1);
         due.prove(0, 0, 301, -1);

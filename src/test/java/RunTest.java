@@ -491,7 +491,8 @@ public final class RunTest {
         due.goes(1, 43);
         due.goes(0, 41);
         // anew into the STATE in which it is
-        due = Due.of("into itself", counting + "A(cb)yi,zi{${y=1->~y+1;z=B();?c>0;};}C(cb)yi,zi{${y=1->~y+1;z=B();!c>0;};}");
+        due = Due.of("into itself", counting + "A(cb)yi,zi{${y=1->~y+1;z=B();?c>0;};}"
+                + "C(cb)yi,zi{${y=1->~y+1;z=B();!c>0;};}");
         due.make(1, 0);
         due.make(2, 1);
         int[] cs = {0, 0, 1, 0, 0};
