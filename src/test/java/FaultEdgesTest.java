@@ -106,6 +106,9 @@ public final class FaultEdgesTest {
         pair(2, "A()yi,zi{`${y=1;z=1;}{z=1;y=1;}{z=1;};}", "A()yi,zi{${y=1;z=1;}{z=1;y=1;}{y=1;z=1;};}");
         pair(2, "A()yi,zi{`${y=1;}{z=1;};}", "A()yi,zi{${y=1;};${z=1;};}");
         pair(2, "A()yi{${y=1;};`${}{z=1;};}", "A()yi|zi{${y=1;};${z=1;}{z=1;};}");
+        for (char c = 'a'; c <= 'z'; c++) {
+            pair(2, "A()" + c + "i{`${" + c + "=1;}{};}", "A()" + c + "i{${" + c + "=1;}{" + c + "=1;};}");
+        }
         pair(2, "A()yi{y=1;${!T>`1;};}", "A()yi{y=1;${!T>0;};}");
         pair(2, "A()yi{y=1;${?T~`1;};}", "A()yi{y=1;${?T~0;};}");
         pair(2, "A()yi{y=1;${}{?T~`2;};}", "A()yi{y=1;${}{?T~1;};}");
@@ -216,6 +219,9 @@ public final class FaultEdgesTest {
     private static void rings() {
         pair(4, "A()yi|`cb@c{y=1;c=T;}", "A(db)yi|cb@d{y=1;c=T;}");
         pair(4, "A()yi|`cb@!d,db@c{y=1;c=T;d=T;}", "A(eb)yi|cb@!d,db@e{y=1;c=T;d=T;}");
+        // in a NODE that is not the first one, too
+        pair(4, ONE + "A()yi|zb,`wb@w{y=1;z=T;w=T;}", ONE + "A()yi|zb,wb@z{y=1;z=T;w=T;}");
+        pair(4, ONE + TWO + "A()yi|`sb@!t,tb@s{y=1;s=T;t=T;}", ONE + TWO + "A()yi|sb@!t,tb{y=1;s=T;t=T;}");
         pair(4, "A()yi|ab@c,`cb@d,db@e,eb@c{y=1;a=T;c=T;d=T;e=T;}",
                 "A()yi|ab@c,cb@d,db@e,eb{y=1;a=T;c=T;d=T;e=T;}");
         Due.bad(4, "A()yi|zi@d,ab@c,`db@d,cb@d{y=1;z=1;a=T;c=T;d=T;}");
@@ -316,6 +322,14 @@ public final class FaultEdgesTest {
         pair(5, "A(xi)yi|zi,wi{`y=1+w;w=z;z=~x;}", "A(xi)yi|zi,wi{y=1->1+w;w=z;z=~x;}");
         Due.good("A(xi)yi=1{y='y+1;}");
         Due.good("A(xi)yi=1{y='y->~x;}");
+        // by as many others as there can be
+        StringBuilder locals = new StringBuilder();
+        StringBuilder body = new StringBuilder();
+        for (char c = 'b'; c <= 'z'; c++) {
+            locals.append(c == 'b' ? "|" : ",").append(c).append('i');
+            body.append((char) (c - 1)).append('=').append(c).append(';');
+        }
+        pair(5, "A()ai" + locals + "{`" + body + "z=~1;}", "A()ai" + locals + "{" + body + "z=1->~1;}");
         // the second part of -> may have none, however deep it stands
         Due.good("A(xi)yi|zi{z=~x;y=1->2->z+z;}");
     }
@@ -373,6 +387,15 @@ public final class FaultEdgesTest {
         pair(6, "A()`yi,zi{${y=1;!z=1>0;};${z=1;!y=1>0;};}", "A()yi,zi{${y=1;!z=1>0;};${z=1;?y=1>0;};}");
         // a LOCAL on @ c hangs on c, and c on it
         pair(6, "A(xb)yi|`cb,zb@c{y=1;c=[c,z,x@!c];z=T;}", "A(xb)yi|cb,zb@c{y=1;c=x;z=T;}");
+        // the one on @ c hangs on itself, too, and is told first; c is whatever letter
+        for (char c = 'a'; c <= 'x'; c++) {
+            Due.bad(6, "A()yi|`zb@C,Cb{y=1;z=T;C=[C,z,T];}".replace('C', c));
+            Due.good("A(xb)yi|zb@C,Cb{y=1;z=T;C=x;}".replace('C', c == 'x' ? 'w' : c));
+        }
+        for (char c = 'a'; c <= 'y'; c++) {
+            Due.bad(6, "A()`Ci,zi{C=z;z=C;}".replace('C', c));
+            Due.bad(6, "A()`zi,Ci{C=z;z=C;}".replace('C', c));
+        }
         // a strong transition of an AUTOMATON without EQUATIONS makes nothing hang on it
         Due.good("A()yi{y=1;${!y=1>0;};}");
         // the first one that is told, not the first one of the letters

@@ -20,6 +20,7 @@ public final class ProveEdgesTest {
         alikeInputs();
         alikeMost();
         alikeFailing();
+        anewAtOnce();
         runs();
         noRun();
         latestRun();
@@ -344,6 +345,21 @@ public final class ProveEdgesTest {
         due.run(-1, 1);
         due.run(0, 1);
         due.alike(4, 5, 1, 2);
+    }
+
+    /** What a STATE remembers is as new at once, and so are the MEMORIES; going on they would be ever more. */
+    private static void anewAtOnce() {
+        Due due = Due.of("anew", "A()yb|zi{y=T;${z=0;?T>1;}{z=1->~z+1;?T>0;};}"
+                + "B()yb|zi{y=T;${z=0;?T~1;}{z=1->~z+1;?T>0;};}"
+                + "C()yb|zi{y=T;${z=0;!T>1;}{z=1->~z+1;!T~0;};}"
+                + "D()yb|zi{y=T;${z=0;!T~1;}{z=1->~z+1;!T>0;};}");
+        due.prove(0, 0, 300, 1);
+        due.run(-2, 3);
+        due.prove(1, 0, 300, 2);
+        // strong: as new ahead of the tick, which leaves 1 and the first time behind it
+        due.prove(2, 0, 300, 1);
+        due.run(-2, 3);
+        due.prove(3, 0, 300, 2);
     }
 
     /** "tick NONE: how many ticks it has (0 unless it told 0); tick -2: how many MEMORIES were found. NONE .." */

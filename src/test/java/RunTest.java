@@ -317,6 +317,16 @@ public final class RunTest {
         due.goes(0, 8);
         due.flow(0, 'w', Due.THROWS);
         due.flow(0, 'z', 7);
+        for (char c = 'a'; c <= 'w'; c++) {
+            due = Due.of("order of letters", "A(xb)yi|zi@C,Cb{z=7;y=[C,z,5];C=!x;}".replace('C', c));
+            due.make(0, 0);
+            due.goes(0, 7);
+            due.goes(1, 5);
+            due = Due.of("order of letters", "D()ui{u=1;}A(xi)yi|Ci{y=C*2;C=x+1;}".replace('C', c));
+            due.make(1, 0);
+            due.goes(3, 8);
+            due.goes(4, 10);
+        }
         due = Due.of("order of automata", "A(xi)yi,zi{${y=z;!z=3~1;}{y=z+100;!z=4~0;};${z=x;}{z=0;};}");
         due.make(0, 0);
         due.goes(2, 2);

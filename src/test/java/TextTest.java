@@ -151,6 +151,7 @@ public final class TextTest {
         due.faults(1, "A(xi)yi{y=x-`");
         due.faults(1, "A(xi)yi{y=x`");
         due.faults(1, "A(xi)yi{y=-`");
+        leftovers();
         // as much as a TEXT can hold, again and again
         due = new Due("full of automata");
         for (int k = 0; k < 5; k++) {
@@ -159,6 +160,44 @@ public final class TextTest {
         due = new Due("full of equations");
         for (int k = 0; k < 3; k++) {
             due.faults(2, "A()yi{y=1;`" + "y=1;".repeat(170) + "}");
+        }
+    }
+
+    /** What the first letter and the first STATE had in both TEXTS before is not left in a third one. */
+    private static void leftovers() {
+        Due due = new Due("leftovers");
+        for (int k = 0; k < 2; k++) {
+            due.fits("A()ai=5|bi,cb,di@c{a='a;b=~1;c=T;d=1;}");
+        }
+        due.faults(2, "A()ai{a='`a;}");
+        String two = "C(xi,vb)ui,wb{u=x;w=v;}";
+        for (int k = 0; k < 2; k++) {
+            due.fits(two + "A()yi,zb{y,z=C(1,T);}");
+        }
+        due.faults(3, two + "A()yi{y=`C(1,T)+1;}");
+        for (int k = 0; k < 2; k++) {
+            due.fits("A()yi|ai{a=~1;y=1;}");
+        }
+        for (int k = 0; k < 2; k++) {
+            due.fits("A()ai,bi,di{a=1;b=a;d=b;}");
+        }
+        for (int k = 0; k < 2; k++) {
+            due.fits("A(cb)yi{${y=1->~y+1;?c>1;}{y=1->~y+1;?c>0;};}");
+        }
+        for (int k = 0; k < 2; k++) {
+            due.fits("A(cb)yi,zi{y=1->~y+1;${z=1;?c>1;}{z=2;?c>0;};}");
+            due.make(0, 0);
+            due.goes(1, 1);
+            due.goes(1, 2);
+            due.goes(1, 3);
+            due.fits("A(cb)yi,zi{y=1->~y+1;${z=1;?c>1;}{z=1->2;?c>0;};}");
+            due.make(0, 0);
+            due.goes(1, 1);
+            due.goes(1, 2);
+            due.out(0, 1, 1);
+            due.goes(1, 3);
+            due.goes(1, 4);
+            due.out(0, 1, 1);
         }
     }
 

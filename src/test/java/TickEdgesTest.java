@@ -8,6 +8,7 @@ public final class TickEdgesTest {
     private static final String COUNT = "B()ui=100{u='u+1;}";
 
     public static void main(String[] args) {
+        whatBindsMore();
         intsWrap();
         towardsZero();
         leastByMinusOne();
@@ -48,6 +49,46 @@ public final class TickEdgesTest {
         due.put(0, 1, b, true);
         due.tick(0, 1 + text.indexOf(at));
         due.ticks(0, 0);
+    }
+
+    /** "D: E, then .. | E. E: F, then .. & F. F: G, or G = G .. G: H, then .. + H, - H. H: J, then .. * J, / J .." */
+    private static void whatBindsMore() {
+        String[] sums = {"+", "-"};
+        String[] products = {"*", "/", "%"};
+        for (String one : sums) {
+            for (String two : products) {
+                int product = two.equals("*") ? 21 : two.equals("/") ? 2 : 1;
+                worth("i", "a" + one + "7" + two + "b", 50, 3, one.equals("+") ? 50 + product : 50 - product);
+                worth("i", "7" + two + "b" + one + "a", 50, 3, one.equals("+") ? product + 50 : product - 50);
+            }
+        }
+        worth("i", "a-b-1", 50, 3, 46);
+        worth("i", "a-b+1", 50, 3, 48);
+        worth("i", "a+b-1", 50, 3, 52);
+        worth("i", "a/b/2", 50, 3, 8);
+        worth("i", "a/b*2", 50, 3, 32);
+        worth("i", "a*b%7", 50, 3, 3);
+        worth("i", "a%b*7", 50, 3, 14);
+        worth("i", "a%7%b", 51, 2, 0);
+        worth("i", "-a*b+1", 50, 3, -149);
+        worth("i", "-a-b", 50, 3, -53);
+        worth("i", "1<2?a:b+100", 50, 3, 50);
+        worth("i", "a<b?1:2->9", 50, 3, 2);
+        worth("b", "a+b=b+a", 50, 3, 1);
+        worth("b", "a-1#b*9", 50, 3, 1);
+        worth("b", "!(a<b)", 50, 3, 1);
+        worth("b", "T|T&U", 0, 0, 1);
+        worth("b", "U&T|T", 0, 0, 1);
+        worth("b", "U&(T|T)", 0, 0, 0);
+        worth("b", "!U&U", 0, 0, 0);
+        worth("b", "a=b|a=50", 50, 3, 1);
+        worth("b", "a=b&a=50|T", 50, 3, 1);
+        worth("b", "T&a<b|b<a", 50, 3, 1);
+        worth("b", "T=U&U", 0, 0, 0);
+        worth("b", "U#U|T", 0, 0, 1);
+        worth("i", "T|U?a:b", 50, 3, 50);
+        worth("i", "a=b?1:b=3?2:3", 50, 3, 2);
+        worth("i", "T?U?1:2:3", 50, 3, 2);
     }
 
     /** "ints wrap". */
@@ -376,6 +417,17 @@ public final class TickEdgesTest {
         due.flow(0, 'q', Due.THROWS);
         due.goes(0, 1, 12);
         due.flow(0, 'q', 2);
+        // each kind of what is remembered, as all that there is
+        String[] kinds = {"B()ui{u=1->2;}", "B()ui=0{u='u+1;}", "B()ui{${u=1;?T>1;}{u=2;};}", "B()ui{u=1->1+~1;}"};
+        for (String kind : kinds) {
+            due = Due.of("anew", kind + "A(cb)yi{y=B()^c;}");
+            due.make(1, 0);
+            int[] inputs = {0, 0, 1, 0, 1, 1, 0};
+            int[] outputs = {1, 2, 1, 2, 1, 1, 2};
+            for (int k = 0; k < inputs.length; k++) {
+                due.goes(inputs[k], outputs[k]);
+            }
+        }
     }
 
     /** "An AUTOMATON is in a STATE (0 at first)." */
